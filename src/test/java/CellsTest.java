@@ -28,6 +28,8 @@ public final class CellsTest {
         c.due("2", x.stretch(2), 2);
         c.due("right", x.goes(0, 0), 0);
         c.due("left", x.goes(1, 1), 0);
+        c.due("40 again", x.stretch(40), 40);
+        c.due("left", x.goes(39, 1), 0);
     }
 
     private static void promise24() {
@@ -35,6 +37,8 @@ public final class CellsTest {
         c.due("cell", x.cell(1, 0, 0), 1);
         c.due("lets", x.goes(1, 2), 0);
         c.due("cell", x.cell(1, 70, 30), 1);
+        c.due("cell", x.cell(0, 100, 0), 1);
+        c.due("lets", x.goes(0, 2), 100);
         c.due("cell", x.cell(0, 0, 100), 1);
         int[][] wrong = {{2, 0, 0}, {-1, 0, 0}, {1, 71, 30}, {1, -1, 50}, {1, 50, -1}, {1, 101, 0}, {1, 0, 101},
             {1, 101, -1}, {1, Integer.MAX_VALUE, 1}, {1, Integer.MIN_VALUE, 1}, {1, 1, Integer.MIN_VALUE}};

@@ -23,7 +23,9 @@ public final class HousesTest {
         c.due("between", x.yards(0, 1), TinString.NONE);
         c.due("between", x.yards(1, 0), TinString.NONE);
         c.due("at an end", x.yards(1, 2), TinString.NONE);
+        c.due("at an end", x.yards(2, 1), TinString.NONE);
         c.due("at an end", x.yards(4, 2), TinString.NONE);
+        c.due("at an end", x.yards(2, 4), TinString.NONE);
         c.due("upright", x.yards(0, 3), TinString.NONE);
         c.due("level", x.yards(3, 4), 2);
         c.due("beside", x.yards(1, 3), 7);
@@ -33,6 +35,14 @@ public final class HousesTest {
         c.due("above and below", x.yards(0, 1), 6);
         x = Check.with("house a 5 9;house b 5 3;post 5 3;");
         c.due("at the other end", x.yards(0, 1), TinString.NONE);
+        c.due("at the other end", x.yards(1, 0), TinString.NONE);
+        // a step aside of each end, and a step beyond it
+        x = Check.with("house a 5 5;house b 7 9;post 5 4;post 4 3;post 7 10;post 8 11;");
+        c.due("near the ends", x.yards(0, 1), 5);
+        c.due("near the ends", x.yards(1, 0), 5);
+        x = Check.with("house a 5 5;house b 9 5;post 4 5;post 10 5;post 9 6;post 5 4;");
+        c.due("near the ends", x.yards(0, 1), 4);
+        c.due("near the ends", x.yards(1, 0), 4);
         x = Check.with("house a 90 1;house b 2 89;post 46 45;");
         c.due("falling", x.yards(0, 1), TinString.NONE);
     }
@@ -111,6 +121,12 @@ public final class HousesTest {
     }
 
     private static void promise34() {
+        TinString x = new TinString();
+        Check.lay(x, "5 9 1");
+        c.due("once", x.taps(), 27);
+        c.due("the tape is empty now", x.taps(), TinString.NONE);
+        Check.lay(x, "5 9 1");
+        c.due("again", x.taps(), 27);
         c.due("one", taps("7"), 7);
         c.due("one of 0", taps("0"), 0);
         c.due("two", taps("5 9"), 9 + 15);

@@ -55,6 +55,12 @@ public final class LineTest {
         c.due("bends", x.bears(3), 4);
         c.due("ties", x.bears(4), 4);
         c.due("straighten", x.straighten(), 8);
+        x.bend(-1);
+        x.tie(1);
+        x.tie(2);
+        c.due("bends", x.bears(3), 1);
+        c.due("ties", x.bears(4), 2);
+        c.due("straighten", x.straighten(), 3);
         c.due("bends", x.bears(3), 0);
         c.due("ties", x.bears(4), 0);
     }
@@ -112,7 +118,6 @@ public final class LineTest {
         x.line(0, 0, 3, 7);
         for (int[] w : new int[][] {{-1, 0}, {10, 0}, {0, -1}, {0, 4}}) {
             c.due("RANGE", x.through(w[0], w[1]), TinString.RANGE);
-            c.due("RANGE", x.share(0, w[0], w[1]), TinString.RANGE);
         }
         // 7000 * 73 / 100 = 5110; * 46 / 100 = 2350; * 963 / 1000: 2263, 2179, 2098; * 73 / 100 = 1531
         c.due("cut each time", x.through(7, 0), 1531);
@@ -169,6 +174,10 @@ public final class LineTest {
         x.tie(100);
         c.due("no tie", x.share(-1, 1, 0), TinString.RANGE);
         c.due("no tie", x.share(4, 1, 0), TinString.RANGE);
+        for (int[] w : new int[][] {{-1, 0}, {10, 0}, {1, -1}, {1, 4}}) {
+            c.due("RANGE", x.share(0, w[0], w[1]), TinString.RANGE);
+        }
+        c.due("no loud", x.share(0, 0, 0), 0);
         // bends come ahead of all ties; 9000, 6750, 4522, 4522
         c.due("share 0", x.share(0, 9, 0), 2250);
         c.due("share 1", x.share(1, 9, 0), 2227);

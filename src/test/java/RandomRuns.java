@@ -140,9 +140,15 @@ public final class RandomRuns {
         both("fault", x.fault(a), y.fault(a));
     }
 
+    /** Mostly one that the stuff bears. */
+    private static int pull(TinString x, int s) {
+        int bears = x.told(10 + s) * (100 - x.told(6)) / 100 - x.told(7);
+        return bears < 1 || r.nextInt(6) == 0 ? about(99) : 1 + r.nextInt(bears);
+    }
+
     private static void line(TinString x, Reference y) {
         int stuffs = x.told(0) - 1, tins = x.told(1) - 1;
-        int s = about(stuffs), t = about(tins), yd = about(r.nextBoolean() ? 400 : 30), p = about(r.nextBoolean() ? 99 : 30);
+        int s = about(stuffs), t = about(tins), yd = about(r.nextInt(4) == 0 ? 400 : 30), p = pull(x, s);
         both("line", x.line(s, t, yd, p), y.line(s, t, yd, p));
         if (r.nextInt(3) == 0) {
             int l = about(x.told(5) - 1);
@@ -168,7 +174,7 @@ public final class RandomRuns {
         int a = about(most), b = about(most), set = about((1 << most + 1) - 1);
         both("table", x.table(a, b), y.table(a, b));
         both("among", x.among(set, a, b), y.among(set, a, b));
-        int seed = r.nextInt(5) == 0 ? about(100) : r.nextInt();
+        int seed = r.nextInt(8) == 0 ? about(100) : r.nextInt() & Integer.MAX_VALUE;
         both("said", x.said(a, seed), y.said(a, seed));
         if (r.nextInt(4) == 0) {
             int w = r.nextBoolean() ? about(65536) : about(10), u = w > 0 && r.nextBoolean() ? upTo(w) : about(65536);
@@ -268,6 +274,7 @@ public final class RandomRuns {
             boolean before = check.isRight();
             if (r.nextInt(6) > 0) {
                 street(x, y);
+                line(x, y);
             }
             step = 0;
             for (int i = 0; i < 40; i++) {

@@ -233,10 +233,26 @@ public final class StreetTest {
         c.due("bears", x.bears(0), TinString.STATE);
     }
 
+    private static void again() {
+        TinString x = new TinString();
+        String text = "stuff a 50 1 2 3 4;tin t 100 90 80 70;word w 1 2 3 4;house h 1 2;post 9 9;loop l 3 1 2 3 4;wet 1;wind 1;noise 2;";
+        for (int i = 0; i < 5; i++) {
+            c.due("the same text again", Check.street(x, text), 9);
+            c.due("the same text cut off", Check.street(x, text + "tin u 0 0 0 0"), TinString.NONE);
+        }
+        // What an earlier text told of wet, wind and noise isn't told by this one.
+        for (int i = 0; i < 3; i++) {
+            c.due("without", Check.street(x, "stuff a 50 1 2 3 4;"), 1);
+            c.due("wet", x.told(6), 0);
+            c.due("wind", x.told(7), 0);
+            c.due("noise", x.told(8), 1);
+        }
+    }
+
     private static void promises6and7() {
         TinString x = Check.with("stuff a 11 1 2 3 4;stuff b 12 5 6 7 8;stuff c 13 9 10 11 12;stuff d 14 13 14 15 999;"
             + "tin t 100 90 80 70;tin u 0 1 2 3;word w 1 2 3 4;word v 9 8 7 6;"
-            + "loop l 9 1 2 3 4;loop m 8 0 9 8 7;noise 0;");
+            + "loop l 9 1 2 3 4;loop m 8 0 9 8 7;noise 0;house a 1 2;house b 3 4;post 1 2;post 3 4;");
         for (int s = 0; s < 4; s++) {
             c.due("snap", x.told(10 + s), 11 + s);
         }
@@ -278,6 +294,7 @@ public final class StreetTest {
         promise3();
         texts();
         promises4and5();
+        again();
         promises6and7();
         c.end();
     }

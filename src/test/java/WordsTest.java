@@ -122,6 +122,15 @@ public final class WordsTest {
         c.due("50000 of 65536", x.longest(1, 50000, 65536), three);
         c.due("65536 of 65536", x.longest(1, 65536, 65536), three);
         c.due("1 of 65536", x.longest(1, 1, 65536), yards);
+        // With one yard alone, and just after that yard was asked for; all is lost in the second.
+        x = Check.with("stuff s 10 944 0 0 0;tin t 100 100 100 100;word a 0 0 0 0;word b 9 0 0 0;noise 0;");
+        x.line(0, 0, 1, 10);
+        c.due("level of one yard", x.level(1, 0), 1);
+        c.due("table of one yard", x.table(1, 1), 1);
+        c.due("one yard", x.longest(1, 1, 1), 1);
+        c.due("one yard", x.longest(1, 1, 1), 1);
+        c.due("the other", x.longest(0, 1, 1), 400);
+        x = Check.with("stuff s 10 100 0 0 0;tin t 100 100 100 100;word a 0 0 0 0;word b 9 0 0 0;noise 1;");
         // NONE, if not with one yard: snapped, so that b sounds as a.
         x.line(0, 0, 10, 11);
         c.due("snapped", x.longest(1, 1, 65536), TinString.NONE);
@@ -213,6 +222,43 @@ public final class WordsTest {
         c.due("below", x.list(-1), TinString.RANGE);
         x = even("word a 5 5 5 5;word b 5 5 5 5;word c 5 5 5 6;");
         c.due("not the two alike", x.list(2), 5);
+        // a is between b and c: 2 of 4; with b and d all have 3 of 4 at least
+        x = even("word a 5 5 5 5;word b 5 5 5 4;word c 5 5 5 6;word d 9 9 9 9;");
+        c.due("the first word counts too", x.list(3), 11);
+    }
+
+    /** Each BAND by itself: words that tell what was drawn for it, held against draws made here. */
+    private static void drawn() {
+        for (int b = 0; b < 4; b++) {
+            StringBuilder words = new StringBuilder();
+            for (int w = 0; w < 6; w++) {
+                words.append("word ").append((char) ('a' + w));
+                for (int i = 0; i < 4; i++) {
+                    words.append(' ').append(i == b ? 2 + w : 5);
+                }
+                words.append(';');
+            }
+            for (int noise = 0; noise <= 3; noise++) {
+                TinString x = even(words + "noise " + noise + ";");
+                for (int i = 0; i < 100; i++) {
+                    int seed = i < 50 ? i : i * 21474836;
+                    long s = seed;
+                    for (int k = 0; k <= b; k++) {
+                        s = (s * 1103515245L + 12345L) & 0x7fffffffL;
+                    }
+                    int way = (int) ((s >> 16) % ((noise + 1) * (noise + 1)));
+                    int[] first = {0, 1, 3, 6, 10, 13, 15};
+                    int[][] starts = {{0}, {0, 1, 3}, {0, 1, 3, 6, 8}, first};
+                    int v = 0;
+                    while (v < 2 * noise && starts[noise][v + 1] <= way) {
+                        v++;
+                    }
+                    // Word d is of LEVEL 5 in that BAND; the words are of 2 to 7.
+                    int heard = Math.min(7, Math.max(2, 5 + v - noise));
+                    c.due("band " + b + " noise " + noise + " seed " + seed, x.said(3, seed), heard - 2);
+                }
+            }
+        }
     }
 
     private static void promise22() {
@@ -236,6 +282,7 @@ public final class WordsTest {
         c.due("c by 1", x.said(2, 1), 2);
         // heard 6 5 5 6: from b 2, c 1, d 1
         c.due("d by 1", x.said(3, 1), 2);
+        drawn();
         // By noise 0 each is taken rightly; by the greatest seed too.
         x = even("word a 5 5 5 4;word b 5 5 5 5;word c 5 5 5 6;word d 6 5 5 5;noise 0;");
         for (int w = 0; w < 4; w++) {

@@ -86,6 +86,7 @@ public final class WrittenTest {
         c.due("none", x.fit(30, 0), 0);
         c.due("none", x.fit(30, 1), TinString.NONE);
         c.due("none", x.fit(30, 2), TinString.NONE);
+        c.due("how many ahead of that", x.fit(20, 0) > 1 ? 1 : 0, 1);
         c.due("without it", x.fit(29, 0), last[0] + last[1]);
         // the LINE stays as it was
         c.due("yards", x.through(9, 0), through(33, 970));
@@ -174,6 +175,38 @@ public final class WrittenTest {
         c.due("nine times b", likeliest[1], 0);
     }
 
+    /** Products that are alike, but for the order of their factors, are alike: law 0, not 20, whichever was told first. */
+    private static void alike() {
+        // By 10 YARDS the LEVEL of c (of b by STUFF 1) is 2: right are 6 of 9 ways, 4374; all 6561 ways of the other.
+        String street = "stuff s 9 0 183 0 0;stuff t 9 183 0 0 0;tin t 100 100 100 100;noise 2;"
+            + "word a 0 0 0 0;word b 9 0 0 0;word c 0 9 0 0;";
+        for (int first = 1; first <= 2; first++) {
+            for (int many = 1; many <= 10; many++) {
+                TinString x = Check.with(street);
+                for (int stuff = 0; stuff < 2; stuff++) {
+                    x.line(stuff, 0, 10, 9);
+                    c.due("the strong one", x.table(1 + stuff, 1 + stuff), 6561);
+                    c.due("the faint one", x.table(2 - stuff, 2 - stuff), 4374);
+                }
+                for (int i = 0; i < many; i++) {
+                    x.write(0, first, first);
+                }
+                for (int i = 0; i < many; i++) {
+                    x.write(0, 3 - first, 3 - first);
+                }
+                c.due("the least of alike ones", x.fit(0, 2), 0);
+                // A word more makes the one or the other likelier.
+                if (many < 9) {
+                    x.write(0, 2, 2);
+                    c.due("c is better by STUFF 1", x.fit(0, 2), 20);
+                    x.write(1, 1, 1);
+                    x.write(1, 1, 1);
+                    c.due("b is better by STUFF 0", x.fit(1, 2), 0);
+                }
+            }
+        }
+    }
+
     private static int[] waysByLaw(String street, int law) {
         TinString x = Check.with(street);
         x.line(law / 20, 0, law % 20 * 10 + 10, 9);
@@ -237,6 +270,7 @@ public final class WrittenTest {
         promise38();
         likeliest();
         often();
+        alike();
         promise39();
         promise40();
         c.end();
