@@ -912,10 +912,10 @@ public final class TinString {
             return 2 * pull >= bears ? 100 : 200 * pull / bears;
         }
 
-        /** What goes into the first yard. */
-        int enters(Street s, int loud, int b) {
+        /** What goes into the first yard, by what the LINE HANDS ON. */
+        int enters(Street s, int hands, int loud, int b) {
             int v = 1000 * loud * s.ofBand(Street.TIN, tin, b) / 100;
-            return v * handsOn(s) / 100;
+            return v * hands / 100;
         }
 
         int overYards(Street s, int v, int b, int many) {
@@ -951,12 +951,12 @@ public final class TinString {
 
         /** THROUGH of a LOUD. */
         int arrives(Street s, int loud, int b) {
-            return leaves(s, overYards(s, enters(s, loud, b), b, yards), b);
+            return leaves(s, overYards(s, enters(s, handsOn(s), loud, b), b, yards), b);
         }
 
         /** A SHARE of TIE k. */
         int tiedOff(Street s, int k, int loud, int b) {
-            int v = overYards(s, enters(s, loud, b), b, yards);
+            int v = overYards(s, enters(s, handsOn(s), loud, b), b, yards);
             return overBends(s, v, b, k) * hundredths[k] / 100;
         }
 
@@ -1001,9 +1001,10 @@ public final class TinString {
         void begin(Street s, Line line) {
             words = s.many[Street.WORD];
             noise = s.number(Street.NOISE, 0, 0);
+            int hands = line.handsOn(s);
             for (int w = 0; w < words; w++) {
                 for (int b = 0; b < Street.BANDS; b++) {
-                    pulls[w][b] = line.enters(s, s.ofBand(Street.WORD, w, b), b);
+                    pulls[w][b] = line.enters(s, hands, s.ofBand(Street.WORD, w, b), b);
                 }
             }
         }

@@ -130,6 +130,10 @@ public final class WordsTest {
         c.due("one yard", x.longest(1, 1, 1), 1);
         c.due("one yard", x.longest(1, 1, 1), 1);
         c.due("the other", x.longest(0, 1, 1), 400);
+        // All LEVELS change at once: of one yard 3 and 2, of two 0 and 0.
+        x = Check.with("stuff s 10 800 800 800 800;tin t 100 100 100 100;word a 9 9 9 9;word b 5 5 5 5;noise 0;");
+        x.line(0, 0, 1, 10);
+        c.due("one yard", x.longest(1, 1, 1), 1);
         x = Check.with("stuff s 10 100 0 0 0;tin t 100 100 100 100;word a 0 0 0 0;word b 9 0 0 0;noise 1;");
         // NONE, if not with one yard: snapped, so that b sounds as a.
         x.line(0, 0, 10, 11);

@@ -97,6 +97,18 @@ public final class WrittenTest {
         c.due("stuff and yards", x.through(9, 0), through(33, 990));
     }
 
+    /** From 10 YARDS on to 20 all LEVELS fall: 3 and 1, 0 and 0. */
+    private static void allAtOnce() {
+        TinString x = Check.with("stuff s 9 150 150 150 150;tin t 100 100 100 100;noise 0;word a 9 9 9 9;word b 5 5 5 5;");
+        x.line(0, 0, 10, 9);
+        x.write(0, 1, 1);
+        c.due("b at 10 yards alone", x.fit(0, 0), 1);
+        x.right(1, 0, 0);
+        c.due("a from 20 yards on", x.fit(1, 0), 19);
+        c.due("a from 20 yards on", x.fit(1, 1), 1);
+        c.due("a from 20 yards on", x.fit(1, 2), 1);
+    }
+
     private static int through(int yards, int keeps) {
         int v = 9000;
         for (int i = 0; i < yards; i++) {
@@ -268,6 +280,7 @@ public final class WrittenTest {
     public static void main(String[] args) {
         promises36and37();
         promise38();
+        allAtOnce();
         likeliest();
         often();
         alike();
