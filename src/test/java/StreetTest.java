@@ -98,6 +98,23 @@ public final class StreetTest {
         good("house a1 2;tin b1 2 3 4;", 2);
         good("wet 90;wind 50;noise 3;", 3);
         good("noise 0;", 1);
+        for (char a = 'a'; a <= 'z'; a++) {
+            String s = "" + a;
+            good("tin " + s + " 0 0 0 0;tin " + s + s + " 0 0 0 0;tin " + s.repeat(7) + " 0 0 0 0;tin " + s.repeat(8) + " 0 0 0 0;", 4);
+            fault("tin " + s.repeat(8) + " 0 0 0 0;tin " + s.repeat(8), 3, 25);
+        }
+        good("tin ab 0 0 0 0;tin ba 0 0 0 0;tin b 0 0 0 0;tin aab 0 0 0 0;", 4);
+        // One letter of a first WORD is another one, or one is more or less.
+        for (String first : new String[] {"stuff", "tin", "word", "house", "post", "loop", "wet", "wind", "noise"}) {
+            for (int i = 0; i < first.length(); i++) {
+                String ahead = first.substring(0, i);
+                String behind = first.substring(i + 1);
+                fault(ahead + "x" + behind + " 1;", 1, 0);
+                fault(ahead + behind + " 1;", 1, 0);
+                fault(ahead + "x" + first.charAt(i) + behind + " 1;", 1, 0);
+            }
+            fault(first + "s 1;", 1, 0);
+        }
         good("word a 9 9 9 9;word b 0 0 0 0;word c 0 0 0 0;word d 0 0 0 0;word e 0 0 0 0;word f 0 0 0 0;", 6);
         good("house a 0 0;house b 0 1;house c 0 2;house d 0 3;house e 0 4;"
             + "post 0 0;post 0 1;post 0 2;post 0 3;", 9);
