@@ -286,40 +286,24 @@ public final class TinString {
         if (now.many[Street.WORD] == 0) {
             return NONE;
         }
-        return kind == 0 ? bestStuff() : bestTin();
+        return bestOf(kind == 0 ? Street.STUFF : Street.TIN, 0);
     }
 
-    private int bestStuff() {
-        int as = string.stuff;
+    /** Tries each of a kind in the LINE, a LOOP as BEND k: that by which the least of all right ways is greatest. */
+    private int bestOf(int kind, int k) {
+        int as = string.change(kind, k, 0);
         int most = -1;
         int best = NONE;
-        for (int s = 0; s < now.many[Street.STUFF]; s++) {
-            string.stuff = s;
+        for (int i = 0; i < now.many[kind]; i++) {
+            string.change(kind, k, i);
             ear.learn(now, string);
             int ways = ear.leastOf(allWords(), most);
             if (ways > most) {
                 most = ways;
-                best = s;
+                best = i;
             }
         }
-        string.stuff = as;
-        return best;
-    }
-
-    private int bestTin() {
-        int as = string.tin;
-        int most = -1;
-        int best = NONE;
-        for (int t = 0; t < now.many[Street.TIN]; t++) {
-            string.tin = t;
-            ear.learn(now, string);
-            int ways = ear.leastOf(allWords(), most);
-            if (ways > most) {
-                most = ways;
-                best = t;
-            }
-        }
-        string.tin = as;
+        string.change(kind, k, as);
         return best;
     }
 
@@ -333,20 +317,7 @@ public final class TinString {
         if (now.many[Street.WORD] == 0) {
             return NONE;
         }
-        int as = string.loops[k];
-        int most = -1;
-        int best = NONE;
-        for (int l = 0; l < now.many[Street.LOOP]; l++) {
-            string.loops[k] = l;
-            ear.learn(now, string);
-            int ways = ear.leastOf(allWords(), most);
-            if (ways > most) {
-                most = ways;
-                best = l;
-            }
-        }
-        string.loops[k] = as;
-        return best;
+        return bestOf(Street.LOOP, k);
     }
 
     public int list(int k) {
@@ -892,6 +863,21 @@ public final class TinString {
             pull = 0;
             bends = 0;
             ties = 0;
+        }
+
+        /** Becomes of another STUFF or TIN, or has another LOOP as BEND k: which one it had. */
+        int change(int kind, int k, int by) {
+            int was = stuff;
+            if (kind == Street.STUFF) {
+                stuff = by;
+            } else if (kind == Street.TIN) {
+                was = tin;
+                tin = by;
+            } else if (k >= 0 && k < bends) {
+                was = loops[k];
+                loops[k] = by;
+            }
+            return was;
         }
 
         /** What it BEARS. */

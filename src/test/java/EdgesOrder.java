@@ -160,6 +160,12 @@ final class EdgesOrder {
         x.write(3, 0, 0);
         x.write(5, 1, 2);
         x.right(6, 1, 1);
+        richRow(x);
+        Check.lay(x, "wet 9;wind 8;noise");
+        return x;
+    }
+
+    private static void richRow(TinString x) {
         x.stretch(4);
         x.cell(1, 60, 30);
         x.cell(3, 0, 100);
@@ -169,8 +175,6 @@ final class EdgesOrder {
         x.keep(1);
         x.send(0, 33);
         x.tick(1);
-        Check.lay(x, "wet 9;wind 8;noise");
-        return x;
     }
 
     /** As much of all as there may be; the latest STEP is 50. */
@@ -410,15 +414,7 @@ final class EdgesOrder {
             e.must("street", Check.street(x, text) >= 0);
             // A new object to which nothing but the ROW has been.
             TinString y = new TinString();
-            y.stretch(4);
-            y.cell(1, 60, 30);
-            y.cell(3, 0, 100);
-            y.send(0, 500);
-            y.send(1, -70);
-            y.tick(2);
-            y.keep(1);
-            y.send(0, 33);
-            y.tick(1);
+            richRow(y);
             Check.street(y, text);
             alike("a new street", x, y);
         }
@@ -431,7 +427,8 @@ final class EdgesOrder {
             + Edges.many("word # % 9 5 1;", 6) + Edges.many("house # % %;", 5) + Edges.many("post 9% 0;", 4) + Edges.many("loop # 9 % 9 9 9;", 3)
             + "loop z 9 9 9 9 9;wet 1;wind 1;noise 2;";
         String little = "stuff a 9 400 400 400 400;tin t 90 90 90 90;word a 0 0 0 0;word b 9 1 1 1;house a 0 0;house b 3 4;loop l 1 9 1 9 1;";
-        for (String text : new String[] {"", little, "word a 1 1 1 1;", "stuff a 9 9 9 9 9;", "house h 1 1;", "post 1 1;", "loop a 1 1 1 1 1;", BARE}) {
+        String dull = "stuff a 9 9 9 9 9;tin t 9 9 9 9;word a 0 0 0 0;word b 9 1 1 1;";
+        for (String text : new String[] {"", little, dull, "word a 1 1 1 1;", "stuff a 9 9 9 9 9;", "house h 1 1;", "post 1 1;", "loop a 1 1 1 1 1;", BARE}) {
             for (int streets = 1; streets <= 4; streets++) {
                 TinString x = new TinString();
                 for (int i = 0; i < streets; i++) {
@@ -457,16 +454,16 @@ final class EdgesOrder {
             e.due("send", x.send(1, 9), 9 * i);
         }
         e.due("the 512th", x.send(1, -9), 9 * 510);
-        // 512 of the dearest.
+        // The dearest, as often as there are calls left: lay() takes three calls, and one for each 20 bytes.
         x = new TinString();
-        int calls = Check.lay(x, "stuff a 9 9 9 9 9;stuff b 9 19 9 9 9;stuff c 9 9 29 9 9;stuff d 9 9 9 9 39;tin t 100 100 100 100;noise 3;"
-            + "word a 9 1 1 1;word b 1 9 1 1;word c 1 1 9 1;word d 1 1 1 9;word e 9 9 9 9;word f 5 5 5 5;") / 20 + 4;
+        int bytes = Check.lay(x, "stuff a 9 9 9 9 9;stuff b 9 19 9 9 9;stuff c 9 9 29 9 9;stuff d 9 9 9 9 39;tin t 100 100 100 100;noise 3;"
+            + "word a 9 1 1 1;word b 1 9 1 1;word c 1 1 9 1;word d 1 1 1 9;word e 9 9 9 9;word f 5 5 5 5;");
         e.due("street", x.street(), 12);
         x.line(0, 0, 1, 9);
         for (int w = 0; w < 6; w++) {
             x.write(0, w, w);
-            calls++;
         }
+        int calls = 3 + (bytes + 19) / 20 + 2 + 6 + 1;
         int first = x.fit(0, 2);
         for (; calls < 512; calls++) {
             e.due("call " + calls, x.fit(0, 2), first);

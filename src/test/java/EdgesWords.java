@@ -479,22 +479,23 @@ final class EdgesWords {
         TinString x = even("word a 2 5 5 5;word b 3 5 5 5;word c 4 5 5 5;word d 5 5 5 5;word e 6 5 5 5;word f 7 5 5 5;noise 3;");
         int[] heard = {0, 1, 1, 2, 2, 2, 3, 3, 3, 3, 4, 4, 4, 5, 5, 5};
         for (int way = 0; way < 16; way++) {
-            int seed = 0;
-            while ((1103515245L * seed + 12345L) % 2147483648L / 65536 % 16 != way) {
-                seed++;
-            }
-            e.due("way " + way + " of 16", x.said(3, seed), heard[way]);
+            e.due("way " + way + " of 16", x.said(3, seedOf(way)), heard[way]);
         }
         // The last NOISE, 3, has LEVEL 8, which none is of; so by WORDS a level louder.
         x = even("word a 3 5 5 5;word b 4 5 5 5;word c 5 5 5 5;word d 6 5 5 5;word e 7 5 5 5;word f 8 5 5 5;noise 3;");
         int[] louder = {0, 0, 0, 1, 1, 1, 2, 2, 2, 2, 3, 3, 3, 4, 4, 5};
         for (int way = 0; way < 16; way++) {
-            int seed = 0;
-            while ((1103515245L * seed + 12345L) % 2147483648L / 65536 % 16 != way) {
-                seed++;
-            }
-            e.due("way " + way + " of 16", x.said(2, seed), louder[way]);
+            e.due("way " + way + " of 16", x.said(2, seedOf(way)), louder[way]);
         }
+    }
+
+    /** The first seed that draws this way of 16. */
+    private static int seedOf(int way) {
+        int seed = 0;
+        while ((1103515245L * seed + 12345L) % 2147483648L / 65536 % 16 != way) {
+            seed++;
+        }
+        return seed;
     }
 
     private static int noiseBySeed(int seed, int b, int n) {
