@@ -152,7 +152,7 @@ final class EdgesOrder {
 
     private static TinString rich() {
         TinString x = Check.with(RICH);
-        x.line(1, 1, 20, 15);
+        x.line(1, 0, 20, 15);
         x.bend(1);
         x.tie(20);
         x.wish(0, 1);
@@ -180,7 +180,7 @@ final class EdgesOrder {
     /** As much of all as there may be; the latest STEP is 50. */
     private static TinString full() {
         TinString x = Check.with(RICH);
-        x.line(0, 0, 400, 40);
+        x.line(0, 1, 400, 40);
         for (int i = 0; i < 4; i++) {
             x.bend(i % 2);
             x.tie(5 * i);

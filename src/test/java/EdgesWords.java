@@ -301,6 +301,7 @@ final class EdgesWords {
                 e.due("all alike", x.best(1), 0);
             }
         }
+        lineStays();
         firstWordCounts();
         // One way more decides: b is told by 13 of 16 ways or 10 of 16 of noise 3.
         x = Check.with("word a 0 0 0 0;word b 2 0 0 0;noise 3;stuff s 9 500 0 0 0;stuff t 9 0 0 0 0;tin t 100 100 100 100;");
@@ -312,6 +313,30 @@ final class EdgesWords {
         x.line(1, 1, 1, 9);
         e.due("one WORD", x.best(0), 0);
         e.due("one WORD", x.best(1), 0);
+    }
+
+    /** Whichever STUFF and TIN the LINE is of, it is of them still when the best have been sought. */
+    private void lineStays() {
+        String text = Edges.many("stuff # 9 1% 0 0 0;", 4) + Edges.many("tin # 9% 90 90 90;", 4) + Edges.many("loop # 5 % 5 5 5;", 4)
+            + "word a 0 0 0 0;word b 9 9 9 9;";
+        for (int stuff = 0; stuff < 4; stuff++) {
+            for (int tin = 0; tin < 4; tin++) {
+                TinString x = Check.with(text);
+                x.line(stuff, tin, 2, 9);
+                x.bend(stuff);
+                x.bend(tin);
+                int v = 9000 * (90 + tin) / 100;
+                v = v * (990 - stuff) / 1000 * (990 - stuff) / 1000;
+                v = v * (50 + 10 * stuff) / 100 * (50 + 10 * tin) / 100 * (90 + tin) / 100;
+                e.due("as told", x.through(9, 0), v);
+                for (int kind = 0; kind < 2; kind++) {
+                    x.best(kind);
+                    e.due("as it was behind best " + kind, x.through(9, 0), v);
+                    x.bestLoop(kind);
+                    e.due("as it was behind bestLoop " + kind, x.through(9, 0), v);
+                }
+            }
+        }
     }
 
     /** By STUFF 0 WORD 0 is between two others: 128 ways of it, 192 of each other; by STUFF 1 all have 144 at least. */
